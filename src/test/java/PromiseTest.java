@@ -797,15 +797,29 @@ public final class PromiseTest {
         DUE.is("seed(0) after a year", x.seed(0), 1442695040888963407L);
     }
 
-    /** The seed that becomes, in one step, a number whose upper 31 bits leave that by 32. */
-    private static long seedFor(int left) {
-        for (long seed = 0; seed < 100000; seed++) {
-            long next = seed * 6364136223846793005L + 1442695040888963407L;
-            if ((next >>> 33) % 32 == left) {
+    private static long after(long seed) {
+        return seed * 6364136223846793005L + 1442695040888963407L;
+    }
+
+    /** A seed by which, step by step, the upper 31 bits leave these by 32. */
+    private static long seedFor(int... left) {
+        for (long seed = 0; seed < 10000000; seed++) {
+            long next = seed;
+            int fits = 0;
+            while (fits < left.length && (after(next) >>> 33) % 32 == left[fits]) {
+                next = after(next);
+                fits++;
+            }
+            if (fits == left.length) {
                 return seed;
             }
         }
-        throw new IllegalStateException("no seed leaves " + left);
+        throw new IllegalStateException("no seed leaves these");
+    }
+
+    private static void yearsBy(TinselRiver x, int want, int... left) {
+        x.seed(seedFor(left));
+        DUE.is("years(" + left.length + ") by " + java.util.Arrays.toString(left), x.years(left.length), want);
     }
 
     private static void years() {
@@ -822,9 +836,22 @@ public final class PromiseTest {
         // Three in house 0: the first loses, then the second, then the third.
         java.util.Arrays.fill(due, 23, 32, 12);
         for (int left = 0; left < 32; left++) {
-            x.seed(seedFor(left));
-            DUE.is("years(1) by " + left, x.years(1), due[left]);
+            yearsBy(x, due[left], left);
         }
+        // Hung with the flood it loses its first, and the two that are left are no crowd.
+        yearsBy(x, 15 + 14, 1, 23);
+        yearsBy(x, 15 + 14, 5, 31);
+        // The flood comes to the three: each loses its last and its first.
+        yearsBy(x, 15 + 9, 12, 24);
+        // Turned, what was alike is so no more.
+        yearsBy(x, 15 + 15, 16, 20);
+        yearsBy(x, 15 + 15, 17, 20);
+        yearsBy(x, 15 + 15, 18, 21);
+        // Not in one house they are not joined; in one, badcba is behind dab by a b.
+        yearsBy(x, 15 + 15, 19, 22);
+        yearsBy(x, 15 + 15 + 14, 19, 12, 22);
+        // Who is gone can not be hung or turned.
+        yearsBy(x, 14 + 14 + 14, 20, 7, 17);
         DUE.is("count(2), nothing is changed", x.count(2), 15);
         DUE.is("count(3), nothing is changed", x.count(3), 15);
         DUE.is("count(4), nothing is changed", x.count(4), 0);
@@ -833,7 +860,7 @@ public final class PromiseTest {
         DUE.is("years(30) of none", x.years(30), 0);
         long seed = 0;
         for (int i = 0; i < 30; i++) {
-            seed = seed * 6364136223846793005L + 1442695040888963407L;
+            seed = after(seed);
         }
         DUE.is("seed(0) after thirty", x.seed(0), seed);
     }
@@ -863,6 +890,10 @@ public final class PromiseTest {
         TinselRiver x = Due.told("TS00abcS00cdS11d");
         DUE.is("again(2)", x.again(2), UNKNOWN);
         DUE.is("again(-1)", x.again(-1), UNKNOWN);
+        x.keep(1);
+        x.turn(0);
+        DUE.is("again(1) in the year 0", x.again(1), 0);
+        DUE.is("undo()", x.undo(), STATE);
         x.winter();
         DUE.is("again(0)", x.again(0), STATE);
         DUE.is("count(7), what is refused changes nothing", x.count(7), 1);
