@@ -16,6 +16,10 @@ final class Due {
         }
     }
 
+    int asked() {
+        return asked;
+    }
+
     int wrong() {
         return wrong;
     }
