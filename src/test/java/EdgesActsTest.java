@@ -307,7 +307,8 @@ public final class EdgesActsTest {
 
     // ---- 13 join
 
-    @Edge(promise = 13, says = "UNKNOWN: both; OUTSIDE: both are one; STATE: they are not in one HOUSE; FULL: more than 12.")
+    @Edge(promise = 13, says = "UNKNOWN: both; OUTSIDE: both are one; STATE: they are not in one "
+        + "HOUSE; FULL: more than 12.")
     static void joinOfNoStrand(Due due) {
         Asked x = Asked.rich(due);
         for (String strand : new String[] {"-1", "3", "4", "MIN", "MAX"}) {
@@ -371,7 +372,8 @@ public final class EdgesActsTest {
         x.is("strand(0, 1)", 1).is("strand(0, 0)", 1).is("join(0, 1)", UNKNOWN).is("join(2, 0)", 4);
     }
 
-    @Edge(promise = 13, says = "JOINED: of two STRANDS in one HOUSE the one has behind its BENDS those of the other one, less the OVERLAP")
+    @Edge(promise = 13, says = "JOINED: of two STRANDS in one HOUSE the one has behind its BENDS "
+        + "those of the other one, less the OVERLAP")
     static void joinOfNoOverlapAndOfAll(Due due) {
         Asked x = Asked.told(due, "TS00abS00cdS00abcdS00d").now("keep(0)");
         x.is("join(0, 1)", 4).is("bends(0)", 1234).is("join(0, 2)", 4).is("join(0, 3)", 4).is("count(2)", 1);
@@ -388,7 +390,8 @@ public final class EdgesActsTest {
         Asked.told(due, "TS00ab").leaves("undo()", STATE).is("turn(0)", 2).is("undo()", 0).leaves("undo()", STATE);
     }
 
-    @Edge(promise = 14, says = "ACTS (WINTERS, HUNG, TURNED, SNIPPED, JOINED) are a row (14 at most; of more the first one is forgotten)")
+    @Edge(promise = 14, says = "ACTS (WINTERS, HUNG, TURNED, SNIPPED, JOINED) are a row (14 at most; "
+        + "of more the first one is forgotten)")
     static void fourteenActsAreAllUndone(Due due) {
         Asked x = Asked.told(due, "TS00ab");
         x.times(14, "winter()").is("count(7)", 14);

@@ -39,7 +39,8 @@ public final class EdgesChanceTest {
         share(Asked.rich(due), "3", UNKNOWN, UNKNOWN);
     }
 
-    @Edge(promise = 25, says = "FRACTIONS are told above (upper = true; below 0, if they are), below (1 and more), in least terms")
+    @Edge(promise = 25, says = "FRACTIONS are told above (upper = true; below 0, if they are), below "
+        + "(1 and more), in least terms")
     static void shareOfNothing(Due due) {
         Asked x = Asked.told(due, "TS00aS00b");
         share(x, "0", 0, 1);
@@ -64,16 +65,18 @@ public final class EdgesChanceTest {
     static void shareInLeastTerms(Due due) {
         // Two places of four are 1/2; three are 3/4; four and more are no fraction.
         Asked x = Asked.told(due, "TS00aS00aS00aS00a");
-        int[][] want = {{1, 4}, {1, 2}, {3, 4}, {1, 1}, {5, 4}, {3, 2}, {7, 4}, {2, 1}, {9, 4}, {5, 2}, {11, 4}, {3, 1}};
+        int[] above = {1, 1, 3, 1, 5, 3, 7, 2, 9, 5, 11, 3};
+        int[] below = {4, 2, 4, 1, 4, 2, 4, 1, 4, 2, 4, 1};
         long row = 0;
         for (int n = 1; n <= 12; n++) {
             row = 10 * row + 1;
             x.now("bed(" + n + ", " + row + ")");
-            x.is("share(2, true)", want[n - 1][0]).is("share(2, false)", want[n - 1][1]);
+            x.is("share(2, true)", above[n - 1]).is("share(2, false)", below[n - 1]);
         }
     }
 
-    @Edge(promise = 25, says = "by how many in the mean PLACES of THE BED that are COVERED are more when it has come than they were: a FRACTION.")
+    @Edge(promise = 25, says = "by how many in the mean PLACES of THE BED that are COVERED are more "
+        + "when it has come than they were: a FRACTION.")
     static void shareOfPlacesOfTwoThreeAndFour(Due due) {
         Asked x = Asked.told(due, "TS00abcS00cS00bcS00abc").now("bed(3, 123)");
         share(x, "0", 13, 12);
@@ -163,14 +166,16 @@ public final class EdgesChanceTest {
         rests(Asked.told(due, "TS13abS13cd"), "0, 1", 6, 1);
     }
 
-    @Edge(promise = 26, says = "neither has more by another one alone: how many; the first (10 times the one and the other); NONE.")
+    @Edge(promise = 26, says = "neither has more by another one alone: how many; the first (10 times "
+        + "the one and the other); NONE.")
     static void restsAreNeverNone(Due due) {
         // One house in four is free for each, so that no two drive one another round: of all valleys there are
         // (tried once, all lengths, kinds and houses) none is without a rest, and NONE is never answered.
         for (int kinds = 0; kinds < 256; kinds++) {
             StringBuilder text = new StringBuilder("T");
             for (int strand = 0; strand < 4; strand++) {
-                text.append("S").append(strand / 2).append(kinds >> 2 * strand & 3).append(strand % 2 == 0 ? "ab" : "c");
+                text.append("S").append(strand / 2).append(kinds >> 2 * strand & 3);
+                text.append(strand % 2 == 0 ? "ab" : "c");
             }
             Asked x = Asked.told(due, text.toString());
             due.is("rests(0, 2, 0) of " + text + " is more than 0", x.ask("rests(0, 2, 0)") > 0 ? 1 : 0, 1);
@@ -265,7 +270,8 @@ public final class EdgesChanceTest {
     @Edge(promise = 28, says = "THE SEED is v: what it was.")
     static void seedOfTheLeastAndTheMost(Due due) {
         Asked x = new Asked(due);
-        x.is("seed(MIN)", 0).is("seed(MAX)", Long.MIN_VALUE).is("seed(-1)", Long.MAX_VALUE).is("seed(0)", -1).is("seed(0)", 0);
+        x.is("seed(MIN)", 0).is("seed(MAX)", Long.MIN_VALUE).is("seed(-1)", Long.MAX_VALUE);
+        x.is("seed(0)", -1).is("seed(0)", 0);
     }
 
     @Edge(promise = 28, says = "THE SEED is v: what it was.")
@@ -373,6 +379,12 @@ public final class EdgesChanceTest {
         for (int left = 0; left < 16; left++) {
             years(x, want[left], left, 23);
         }
+        // The last that hangs, 15, takes strand 3 out of a crowd to house 3; 12 leaves it there, as it is there.
+        Asked crowd = Asked.told(due, "TS00abS00bcS10cdS00da");
+        years(crowd, 8 + 8, 15, 23);
+        years(crowd, 8 + 8, 13, 23);
+        years(crowd, 8 + 5, 12, 23);
+        years(crowd, 8 + 5, 16, 23);
     }
 
     @Edge(promise = 29, says = "16 to 19 that less 16 STRAND is TURNED")

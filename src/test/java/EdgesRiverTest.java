@@ -116,10 +116,12 @@ public final class EdgesRiverTest {
         x.is("overlap(0, 1)", 1).is("overlap(1, 0)", 1).is("overlap(0, 2)", 1).is("overlap(2, 0)", 0);
     }
 
-    @Edge(promise = 17, says = "(most, 0 and more, no more than either has) the end of the one is as the begin of the other.")
+    @Edge(promise = 17, says = "(most, 0 and more, no more than either has) the end of the one is as "
+        + "the begin of the other.")
     static void overlapIsTheMostOfSeveral(Due due) {
         // By 1, by 3 and by 5 the end is as the begin.
-        Asked.told(due, "TS00ababaS00ababaS10babab").is("overlap(0, 1)", 5).is("overlap(0, 2)", 4).is("overlap(2, 0)", 4);
+        Asked x = Asked.told(due, "TS00ababaS00ababaS10babab");
+        x.is("overlap(0, 1)", 5).is("overlap(0, 2)", 4).is("overlap(2, 0)", 4);
         // By 1 and by 4, not by 2 and by 3.
         Asked.told(due, "TS00dabbaS00abbaab").is("overlap(0, 1)", 4);
     }
@@ -299,7 +301,8 @@ public final class EdgesRiverTest {
     static void judgeRowOfFewerFigures(Due due) {
         // Figures that are not told are 0 before the others: winters.
         Asked x = Asked.told(due, "TS00a");
-        x.is("judge(1, 202)", 0).is("judge(2, 202)", 1).is("judge(3, 202)", 2).is("judge(4, 202)", 3).is("judge(4, 200)", NONE);
+        x.is("judge(1, 202)", 0).is("judge(2, 202)", 1).is("judge(3, 202)", 2);
+        x.is("judge(4, 202)", 3).is("judge(4, 200)", NONE);
     }
 
     @Edge(promise = 21, says = "the place of the first that can not be (or is not so); NONE: none.")
@@ -359,7 +362,8 @@ public final class EdgesRiverTest {
     static void judgeHowManyBends(Due due) {
         Asked x = Asked.rich(due);
         x.leaves("judge(1, 500)", NONE).leaves("judge(1, 506)", NONE).leaves("judge(1, 507)", 0);
-        x.leaves("judge(1, 513)", NONE).leaves("judge(1, 514)", 0).leaves("judge(1, 530)", 0).leaves("judge(1, 540)", 0);
+        x.leaves("judge(1, 513)", NONE).leaves("judge(1, 514)", 0);
+        x.leaves("judge(1, 530)", 0).leaves("judge(1, 540)", 0);
         x.leaves("judge(2, 512)", NONE).leaves("judge(2, 513)", 1);
         twelveInAFlood(due).is("judge(1, 509)", NONE).is("judge(4, 509)", NONE);
     }

@@ -136,8 +136,9 @@ public final class EdgesSlotsTest {
     @Edge(promise = 32, says = "6 HOUSES that have any (bits)")
     static void countHousesFromNoneToAll(Due due) {
         Asked x = Asked.told(due, "TS00aS10aS20aS30a").is("count(6)", 15);
-        x.now("hang(0, 1)").is("count(6)", 14).now("join(1, 0)").is("count(6)", 14).now("hang(1, 3)").is("count(6)", 12);
-        x.now("hang(2, 3)").is("count(6)", 8).now("join(3, 1)", "join(3, 2)").is("count(6)", 8).is("count(2)", 8);
+        x.now("hang(0, 1)").is("count(6)", 14).now("join(1, 0)").is("count(6)", 14);
+        x.now("hang(1, 3)").is("count(6)", 12).now("hang(2, 3)").is("count(6)", 8);
+        x.now("join(3, 1)", "join(3, 2)").is("count(6)", 8).is("count(2)", 8);
         Asked.told(due, "T").is("count(6)", 0);
     }
 

@@ -189,7 +189,8 @@ public final class EdgesValleyTest {
         Asked x = new Asked(due).write(text);
         x.leaves("fault()", want);
         x.is("fault()", want);
-        due.is("whether valley() of '" + text + "' is refused", x.ask("valley()") == STATE ? 1 : 0, want == NONE ? 0 : 1);
+        boolean refused = x.ask("valley()") == STATE;
+        due.is("whether valley() of '" + text + "' is refused", refused ? 1 : 0, want == NONE ? 0 : 1);
     }
 
     @Edge(promise = 4, says = "its length, if it is only not at its end; NONE: none.")
@@ -287,7 +288,8 @@ public final class EdgesValleyTest {
         }
     }
 
-    @Edge(promise = 4, says = "the place of the first letter by which THE TEXT can be no VALLEY, whatever came behind it")
+    @Edge(promise = 4, says = "the place of the first letter by which THE TEXT can be no VALLEY, "
+        + "whatever came behind it")
     static void theFirstOfSeveralFaults(Due due) {
         faultOf(due, "XXX", 0);
         faultOf(due, "TS4", 2);
@@ -551,7 +553,8 @@ public final class EdgesValleyTest {
         x.is("strand(2, 2)", UNKNOWN);
     }
 
-    @Edge(promise = 7, says = "LIES of a STRAND: the first place of THE BED (from 0) from which on its BENDS are as those of THE BED; NONE.")
+    @Edge(promise = 7, says = "LIES of a STRAND: the first place of THE BED (from 0) from which on "
+        + "its BENDS are as those of THE BED; NONE.")
     static void liesFirstAndLast(Due due) {
         Asked x = Asked.told(due, "TS00abS10cdS20ddS30abcd");
         x.now("bed(12, 123333333344)");
@@ -559,7 +562,8 @@ public final class EdgesValleyTest {
         x.now("bed(12, 444444444412)").is("strand(0, 3)", 10).is("strand(2, 3)", 0);
     }
 
-    @Edge(promise = 7, says = "the first place of THE BED (from 0) from which on its BENDS are as those of THE BED; NONE.")
+    @Edge(promise = 7, says = "the first place of THE BED (from 0) from which on its BENDS are as "
+        + "those of THE BED; NONE.")
     static void liesAtTheFirstOfSeveral(Due due) {
         Asked x = Asked.told(due, "TS00aaS10ab");
         x.now("bed(6, 211112)").is("strand(0, 3)", 1).is("strand(1, 3)", 4).now("bed(4, 1212)").is("strand(1, 3)", 0);

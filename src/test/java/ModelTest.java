@@ -2,8 +2,9 @@ import java.util.Random;
 
 /** Long runs of calls by a fixed seed, each answer against the model's; at the end of a run all that can be asked. */
 public final class ModelTest {
-    private static final int RUNS = 2500;
-    private static final int CALLS = 160;
+    private static final int RUNS = 12000;
+    /** An object is used for 512 calls; all that is asked at the end takes some 260 of them. */
+    private static final int MOST_CALLS = 512, CALLS = 200;
     private static final int[] ODD = {-1, 4, 5, 12, 13, 21, 31, Integer.MIN_VALUE, Integer.MAX_VALUE};
     private static final long[] ODD_LONG = {-1, 0, Long.MIN_VALUE, Long.MAX_VALUE, 1000000000000L, 999999999999L};
 
@@ -27,10 +28,15 @@ public final class ModelTest {
         river = new TinselRiver();
         model = new Model();
         letters = 1 + random.nextInt(4);
-        for (int i = 0; i < CALLS; i++) {
+        int before = due.asked();
+        while (due.asked() - before < CALLS) {
             step();
         }
         askAll();
+        int calls = due.asked() - before;
+        if (calls > MOST_CALLS) {
+            due.is("calls of one object", calls, MOST_CALLS);
+        }
     }
 
     private void step() {
