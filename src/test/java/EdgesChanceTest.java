@@ -169,8 +169,7 @@ public final class EdgesChanceTest {
     @Edge(promise = 26, says = "neither has more by another one alone: how many; the first (10 times "
         + "the one and the other); NONE.")
     static void restsAreNeverNone(Due due) {
-        // One house in four is free for each, so that no two drive one another round: of all valleys there are
-        // (tried once, all lengths, kinds and houses) none is without a rest, and NONE is never answered.
+        // No valley was found without a rest (NOTES.md says what was tried), so NONE itself can not be asked for here.
         for (int kinds = 0; kinds < 256; kinds++) {
             StringBuilder text = new StringBuilder("T");
             for (int strand = 0; strand < 4; strand++) {
