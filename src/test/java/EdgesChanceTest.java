@@ -169,7 +169,7 @@ public final class EdgesChanceTest {
     @Edge(promise = 26, says = "neither has more by another one alone: how many; the first (10 times "
         + "the one and the other); NONE.")
     static void restsAreNeverNone(Due due) {
-        // No valley was found without a rest (NOTES.md says what was tried), so NONE itself can not be asked for here.
+        // No valley is without a rest (NOTES.md says how that was found), so NONE itself can not be asked for here.
         for (int kinds = 0; kinds < 256; kinds++) {
             StringBuilder text = new StringBuilder("T");
             for (int strand = 0; strand < 4; strand++) {

@@ -1,4 +1,5 @@
 import java.io.IOException;
+import java.lang.reflect.Array;
 import java.lang.reflect.Constructor;
 import java.lang.reflect.Field;
 import java.lang.reflect.Method;
@@ -6,12 +7,14 @@ import java.lang.reflect.Modifier;
 import java.nio.file.Files;
 import java.nio.file.Path;
 import java.util.Arrays;
+import java.util.Collections;
+import java.util.IdentityHashMap;
 import java.util.Set;
 import java.util.TreeSet;
 import java.util.regex.Matcher;
 import java.util.regex.Pattern;
 
-/** The face that the document tells, and the form that LANGUAGE.md asks for. Runs from the project's folder. */
+/** The face that the document tells, the room that an object takes, and words and signs that are ruled out. */
 public final class FormTest {
     private static final String SOURCE = "src/main/java/TinselRiver.java";
     private static final String FACE = """
@@ -26,7 +29,7 @@ public final class FormTest {
     public static void main(String[] args) throws IOException, ReflectiveOperationException {
         face();
         constants();
-        nested();
+        room();
         words(Files.readString(Path.of(SOURCE)));
         DUE.close();
     }
@@ -73,20 +76,35 @@ public final class FormTest {
         }
     }
 
-    private static void nested() {
-        DUE.about("rules 2, 5, 11");
-        for (Class<?> c : TinselRiver.class.getDeclaredClasses()) {
-            DUE.is(c + " static", Modifier.isStatic(c.getModifiers()) ? 1 : 0, 1);
-            DUE.is(c + " public", Modifier.isPublic(c.getModifiers()) ? 1 : 0, 0);
-            for (Field f : c.getDeclaredFields()) {
-                boolean state = Modifier.isStatic(f.getModifiers()) && !Modifier.isFinal(f.getModifiers());
-                DUE.is(f + " static state", state ? 1 : 0, 0);
-            }
-            for (Method m : c.getDeclaredMethods()) {
-                DUE.is(m + " more than seven parameters", m.getParameterCount() > 7 ? 1 : 0, 0);
+    /** Only constructors make objects (LanguageTest sees to it), so an object is all the room that its calls take. */
+    private static void room() throws ReflectiveOperationException {
+        DUE.about("the room of one object");
+        Set<Object> objects = Collections.newSetFromMap(new IdentityHashMap<>());
+        int cells = cellsOf(new TinselRiver(), objects);
+        DUE.is(objects.size() + " objects are some 270", objects.size() <= 300 ? 1 : 0, 1);
+        DUE.is(cells + " fields and elements are some 1,600", cells <= 2000 ? 1 : 0, 1);
+    }
+
+    private static int cellsOf(Object object, Set<Object> seen) throws ReflectiveOperationException {
+        if (object == null || !seen.add(object)) {
+            return 0;
+        }
+        int cells = object.getClass().isArray() ? Array.getLength(object) : 0;
+        if (object instanceof Object[] all) {
+            for (Object element : all) {
+                cells += cellsOf(element, seen);
             }
         }
-        DUE.is("more than twelve classes", TinselRiver.class.getDeclaredClasses().length > 11 ? 1 : 0, 0);
+        if (object.getClass().isArray()) {
+            return cells;
+        }
+        for (Field field : object.getClass().getDeclaredFields()) {
+            if (!Modifier.isStatic(field.getModifiers())) {
+                field.setAccessible(true);
+                cells += 1 + (field.getType().isPrimitive() ? 0 : cellsOf(field.get(object), seen));
+            }
+        }
+        return cells;
     }
 
     private static void words(String source) {
